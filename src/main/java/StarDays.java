@@ -1051,6 +1051,8 @@ public final class StarDays {
         // For each set of heads the pairs of a head and a task that it explains, and all those from it on.
         private final long[] explains = new long[1 << MOST_HEADS];
         private final long[] explainsOn = new long[(1 << MOST_HEADS) + 1];
+        // For each pair all those that some set explains along with it.
+        private final long[] besides = new long[MOST_HEADS * MOST_TASKS];
         private int sets;
         private int allTasks;
         private int wanted;
@@ -1092,8 +1094,10 @@ public final class StarDays {
 
         private void tellWhatSetsExplain() {
             explainsOn[sets] = 0;
+            Arrays.fill(besides, 0);
             for (int set = 0; set < sets; set++) {
                 explains[set] = explainedBy(set);
+                tellBesides(explains[set]);
             }
             for (int set = sets - 1; set >= 0; set--) {
                 // In the least row a set never stands where a lower one does as much.
@@ -1115,6 +1119,12 @@ public final class StarDays {
             return pairs;
         }
 
+        private void tellBesides(long pairs) {
+            for (int i = 0; i < MOST_HEADS * MOST_TASKS; i++) {
+                besides[i] |= (pairs >> i & 1) == 1 ? pairs : 0;
+            }
+        }
+
         private boolean isOutdone(int set) {
             for (int lower = 0; lower < set; lower++) {
                 if ((explains[set] & ~explains[lower]) == 0) {
@@ -1129,6 +1139,9 @@ public final class StarDays {
             if (place >= wanted || place >= MOST_FITTING) {
                 return left == 0;
             }
+            if (wantsMoreThan(wanted - place, left)) {
+                return false;
+            }
             for (int set = from; set < sets; set++) {
                 if ((left & ~explainsOn[set]) != 0) {
                     return false;
@@ -1139,6 +1152,19 @@ public final class StarDays {
                 }
             }
             return false;
+        }
+
+        /** Pairs of which no two are explained by one set want a set each: without this look the search is long. */
+        private boolean wantsMoreThan(int many, long left) {
+            long rest = left;
+            for (int i = 0; i < many && rest != 0; i++) {
+                rest &= ~besides[lowestOf(rest)];
+            }
+            return rest != 0;
+        }
+
+        private static int lowestOf(long pairs) {
+            return Math.min(Long.bitCount((pairs & -pairs) - 1), MOST_HEADS * MOST_TASKS - 1);
         }
 
         private boolean fitsBehind(int place, int set, long left) {
