@@ -184,6 +184,8 @@ public final class PromisesTest {
         due("9: law(0, MIN)", x.law(0, MIN), -1);
         due("9: law(0, 21) of 20", x.law(0, 21), -1);
         due("9: the tape stays", x.count(6), 20);
+        due("9: law(0, 1)", x.law(0, 1), -1001);
+        Checks.feedText(x, "g50(n=0)");
         due("9: law(0, 8)", x.law(0, 8), 1);
         due("9: the tape is empty", x.count(6), 0);
         due("9: gives by it", x.gives(0, 0, 0), 50);
@@ -347,6 +349,9 @@ public final class PromisesTest {
         reckons("g9(2>2)", 0);
         reckons("g9(!1=2)", 9);
         reckons("g9(!!1=2)", 0);
+        reckons("g9(!1<2)", 0);
+        reckons("g9(!2>1)", 0);
+        reckons("g9(!1=1|1=2)", 0);
         reckons("g9(!(1=2|1=1))", 0);
         reckons("g9(1=1|1=2&1=2)", 9);
         reckons("g9((1=1|1=2)&1=2)", 0);
@@ -393,6 +398,7 @@ public final class PromisesTest {
         due("11: as much as can be", x.does(0, 2), 1);
         firstDraw(0);
         firstDraw(60);
+        lastOfHundred();
         for (int i = 4; i < 200; i++) {
             x.does(1, 1);
         }
@@ -409,6 +415,26 @@ public final class PromisesTest {
             x.task(1, 0, hard);
             x.share(0, 0, had);
             due("11: hard " + hard, x.does(0, 0), hard - had <= 77 ? 1 : 0);
+        }
+    }
+
+    /** The draw behind this seed is 99 of 100: right if hard is not above what the head has. */
+    private static void lastOfHundred() {
+        int seed = 0;
+        while ((25173L * seed + 13849) % 65536 % 100 != 99) {
+            seed++;
+        }
+        for (int hard = 0; hard <= 2; hard++) {
+            for (int mode = 0; mode <= 1; mode++) {
+                StarDays x = Checks.with(1, 1);
+                x.task(1, mode, hard);
+                x.share(0, 0, 1);
+                x.seed(seed);
+                due("11: as hard as it has", x.does(0, 0), hard <= 1 ? 1 : 0);
+                x.share(0, 0, 0);
+                x.does(0, 0);
+                due("11: it has nothing", x.answer(1, 4), 0);
+            }
         }
     }
 
@@ -504,6 +530,9 @@ public final class PromisesTest {
         due("15: worse(0, 1, 0, 2)", x.worse(0, 1, 0, 2), -1);
         due("15: worse(0, 1, 0, -1)", x.worse(0, 1, 0, -1), -1);
         due("15: NONE ahead of -2", x.worse(0, 2, 0, 2), -1);
+        Checks.tellAnswers(x, 2, 0, 1, 1);
+        due("15: one answer is enough", x.worse(0, 2, 0, 1), 3);
+        due("15: the other way", x.worse(2, 0, 0, 1), 1);
         StarDays y = Checks.with(1, 2);
         y.task(1, 0, 0);
         Checks.tellAnswers(y, 0, 0, 0, 25);
@@ -544,6 +573,10 @@ public final class PromisesTest {
         due("16: parted(0, 1, 0, -1, 50)", x.parted(0, 1, 0, -1, 50), -1);
         due("16: parted(0, 1, 0, 1, 0)", x.parted(0, 1, 0, 1, 0), -1);
         due("16: parted(0, 1, 0, 1, 1001)", x.parted(0, 1, 0, 1, 1001), -1);
+        due("16: not by 1", x.parted(0, 1, 0, 1, 1), 0);
+        Checks.tellAnswers(x, 2, 0, 1, 1);
+        due("16: all odds are within 1000", x.parted(2, 0, 0, 1, 1000), 1);
+        due("16: 1 is not within 999", x.parted(2, 0, 0, 1, 999), 0);
         Checks.tellAnswers(x, 0, 1, 23, 23);
         due("16: more than 25 at b", x.parted(0, 1, 0, 1, 50), 1);
         Checks.tellAnswers(x, 0, 0, 0, 23);
@@ -589,6 +622,13 @@ public final class PromisesTest {
         due("17: half right is not known", x.fewest(0), 2);
         Checks.tellAnswers(x, 2, 0, 0, 1);
         due("17: both", x.fewest(0), 6);
+        Checks.tellAnswers(x, 1, 0, 2, 2);
+        due("17: head 1 can do it now", x.fewest(0), 4);
+        Checks.tellAnswers(x, 1, 0, 0, 2);
+        due("17: and now it can't again", x.fewest(0), 6);
+        Checks.tellAnswers(x, 1, 0, 1, 1);
+        Checks.tellAnswers(x, 2, 0, 1, 1);
+        due("17: nothing is left", x.fewest(-1), 0);
     }
 
     /** Each of so many heads fails at a task of its own alone: so many stores are wanted. */
@@ -677,6 +717,13 @@ public final class PromisesTest {
         due("19: no pair", x.next(2, 0), 0);
         Checks.feedBytes(x, 5, 5);
         due("19: no pair", x.next(2, 1), 0);
+        Checks.feedBytes(x, 0, 2, 2);
+        due("19: task 1 alone parts them", x.next(3, 0), 1);
+        for (int t = 4; t < 8; t++) {
+            x.task(1, 0, 0);
+        }
+        Checks.feedBytes(x, 0, 0, 1, 1, 7, 7);
+        due("19: of eight tasks", x.next(6, 1), 8);
         Checks.feedBytes(x, 1, 2, 8);
         due("19: a store that is not there, behind the guesses", x.next(2, 1), 1);
         Checks.feedBytes(x, 1, 2, 8);
@@ -888,9 +935,14 @@ public final class PromisesTest {
         due("28: all five, not those that were told", x.again(), 5);
         Checks.tellLaw(x, 0, "g100(n>4)");
         due("28: told ones were done, too", x.again(), 3);
+        due("28: nothing is left of the first time", x.again(), 3);
+        Checks.tellLaw(x, 0, "g100(a>4)");
+        due("28: by all that it has done", x.again(), 3);
+        due("28: nothing is left of the first time", x.again(), 3);
         x.now(50);
         Checks.tellLaw(x, 0, "g100(y=0&d%300=0)");
         due("28: each on its day", x.again(), 5);
+        due("28: once more", x.again(), 5);
         int drawn = x.count(7);
         Checks.tellLaw(x, 0, "g50(1=1)");
         int right = 0;
@@ -946,6 +998,9 @@ public final class PromisesTest {
             twelve[4 * i + 3] = i % 2;
         }
         checked(y, 12, twelve, -1);
+        Checks.feedNumbers(y, new int[15]);
+        due("29: check(4) of 60 bytes", y.check(4), -2);
+        y.check(0);
         Checks.feedNumbers(y, twelve);
         due("29: check(13) of 50 numbers", y.check(13), -2);
     }
