@@ -782,6 +782,11 @@ public final class PromisesTest {
         backIs(x, 50, 50, 1);
         due("22: back(3)", x.back(3), -1);
         due("22: back(-1)", x.back(-1), -1);
+        StarDays full = new StarDays();
+        for (int i = 0; i < 40; i++) {
+            full.old(i, 10, i < 20 ? 1 : 0);
+        }
+        backIs(full, 20, 20, 0);
         StarDays y = new StarDays();
         y.old(99, 9, 1);
         backIs(y, 100, 100, 0);
