@@ -570,9 +570,27 @@ public final class BoundsOfFindingsTest {
             due("24: all twelve are a row", x.curve(one[0], one[1], 0), 12);
         }
         due("24: as others, of twelve places", x.curve(0, 0, 1), 12);
+        eachItsOwn();
         due("24: of others none", x.curve(1, 0, 2), 0);
         due("24: of others none", x.curve(0, 1, 2), 0);
         Worlds.refused(CHECKS, "24: a 13th of a full object", Worlds.full(), y -> y.mistakes(0, 0, 0), -1);
+    }
+
+    /** 24: each head's at each task are its own: the row of better ones is of another length from one to the next. */
+    private static void eachItsOwn() {
+        StarDays x = heads(6, 8);
+        for (int i = 0; i < 6; i++) {
+            for (int h = 0; h < 6; h++) {
+                for (int t = 0; t < 8; t++) {
+                    x.mistakes(h, t, i <= (7 * h + 3 * t) % 6 ? 500 - i : 500 + i);
+                }
+            }
+        }
+        for (int h = 0; h < 6; h++) {
+            for (int t = 0; t < 8; t++) {
+                due("24: row of head " + h + " at task " + t, x.curve(h, t, 0), (7 * h + 3 * t) % 6 + 1);
+            }
+        }
     }
 
     /** 25: NONE for others. */
@@ -630,6 +648,7 @@ public final class BoundsOfFindingsTest {
         due("25: one else, fewer", curves(new int[] {5}, new int[] {4}).curve(0, 0, 1), 0);
         due("25: none else has the place", curves(new int[] {5, 5, 5}, new int[] {5}).curve(0, 0, 1), 1);
         due("25: others have more places", curves(new int[] {5}, new int[] {5, 5}).curve(0, 0, 1), 1);
+        due("25: others have 0 behind its places", curves(new int[] {5}, new int[] {5, 0}).curve(0, 0, 1), 1);
         int[] least = {2, 2, 2, 2, 2};
         int[] greatest = {4, 4, 4, 4, 4};
         due("25: the bounds, too", curves(new int[] {1, 2, 3, 4, 5}, least, greatest).curve(0, 0, 1), 3);

@@ -30,6 +30,7 @@ public final class BoundsOfLawTest {
         comparedAtTheLine();
         wrapsAround();
         refusedCondition();
+        refusedOverAndOver();
         refusedAmount();
         askedAsMatters();
         noSuchGives();
@@ -444,6 +445,19 @@ public final class BoundsOfLawTest {
         gives("g9([1/[1-1]]=0|1=1)", 0);
         gives("g9(1/0=0|1=1);g8(1=1)", 8);
         gives("g9(1/0=0);g8(2/0=0);g7(1=1)", 7);
+    }
+
+    /** 9: what is REFUSED leaves nothing behind for what is asked later, however often it is. */
+    private static void refusedOverAndOver() {
+        StarDays x = Checks.with(1, 1);
+        x.task(1, 0, 0);
+        due("9: eleven are refused", Checks.tellLaw(x, 0, "g9(1+2/0=4);".repeat(10) + "g9(1/0=4);g7+1/[1-b](b<9)"), 12);
+        for (int i = 0; i < 40; i++) {
+            due("10: the twelfth holds", x.gives(0, 0, 0), 8);
+        }
+        due("23: 8 for 0, and nothing for 1, as it is refused", x.lasts(0, 0, 0, 8), 0);
+        due("23: the other way", x.lasts(0, 0, 0, 9), -2);
+        due("10: the twelfth holds still", x.gives(0, 0, 0), 8);
     }
 
     /** 9: an E is 0. */

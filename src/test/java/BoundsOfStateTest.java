@@ -265,6 +265,15 @@ public final class BoundsOfStateTest {
         x.store();
         due("5: a store made behind the task", x.gives(0, 0, 2), -1);
         due("5: the next one uses it", x.task(100, 0, 0), 1);
+        StarDays y = Checks.with(2, 1);
+        due("5: one that uses store 1, and one that is not there", y.task(191, 0, 0), -1);
+        due("5: task(1, 0, 0)", y.task(1, 0, 0), 0);
+        due("5: task(21, 0, 0)", y.task(21, 0, 0), 1);
+        due("5: nothing of the refused one is used", y.purest(0), 0);
+        y.told(0, 0, 0, 1);
+        y.told(0, 1, 0, 0);
+        due("5: task 0 needs store 0 alone", y.lacks(0, 0), 2);
+        due("5: none is otherwise", y.lacks(0, 1), 0);
     }
 
     /** 6: DAYS 0 to 299. */
