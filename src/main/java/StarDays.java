@@ -18,6 +18,7 @@ public final class StarDays {
     private static final int MOST_FITTING = 4;
     private static final int MOST_OLD = 40;
     private static final int MOST_CURVE = 12;
+    private static final int MOST_MISTAKES = 1000;
     private static final int FULL = 100;
     private static final int NOT_KNOWN = 2;
 
@@ -297,7 +298,7 @@ public final class StarDays {
     }
 
     public int mistakes(int h, int t, int n) {
-        if (!isHead(h) || !isTask(t) || !isWithin(n, 0, 1000)) {
+        if (!isHead(h) || !isTask(t) || !isWithin(n, 0, MOST_MISTAKES)) {
             return NONE;
         }
         return curves.add(h, t, n);
@@ -1268,8 +1269,8 @@ public final class StarDays {
 
         /** With nobody else at the place the least stays above the greatest, and nothing is between. */
         private boolean isAsOthersAt(int place, int h, int t, int heads) {
-            int least = Integer.MAX_VALUE;
-            int greatest = Integer.MIN_VALUE;
+            int least = MOST_MISTAKES + 1;
+            int greatest = -1;
             for (int other = 0; other < heads; other++) {
                 if (other != h && place < sizes[other][t]) {
                     int many = mistakes[startOf(other, t) + place];

@@ -653,6 +653,9 @@ public final class BoundsOfFindingsTest {
         int[] greatest = {4, 4, 4, 4, 4};
         due("25: the bounds, too", curves(new int[] {1, 2, 3, 4, 5}, least, greatest).curve(0, 0, 1), 3);
         due("25: the bounds are of any two", curves(new int[] {1, 2, 3, 4, 5}, greatest, new int[] {3}, least).curve(0, 0, 1), 3);
+        due("25: 0 and 1000, none else", curves(new int[] {0, 1000}).curve(0, 0, 1), 0);
+        due("25: others at 1000 alone", curves(new int[] {1000, 999}, new int[] {1000, 1000}).curve(0, 0, 1), 1);
+        due("25: others at 0 alone", curves(new int[] {0, 1}, new int[] {0, 0}).curve(0, 0, 1), 1);
         due("25: 0 and 1000", curves(new int[] {0, 1000}, new int[] {0, 0}, new int[] {1000, 1000}).curve(0, 0, 1), 2);
         StarDays x = curves(new int[] {5}, new int[] {}, new int[] {}, new int[] {}, new int[] {}, new int[] {5});
         due("25: the last head", x.curve(0, 0, 1), 1);

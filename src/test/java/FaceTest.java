@@ -96,8 +96,22 @@ public final class FaceTest {
         while (imports.find()) {
             CHECKS.due("import " + imports.group(1), imports.group(1).equals("java.util.Arrays"), true);
         }
+        library(code);
         methodsAreShort(code);
         CHECKS.due("signs are below 128", source.chars().allMatch(sign -> sign < 128), true);
+    }
+
+    /** Of the library's classes the functions of rule 4 alone, and none of their constants. */
+    private static void library(String code) {
+        Set<String> listed = Set.of(
+            "Integer.bitCount(", "Long.bitCount(", "Math.max(", "Math.min(", "Math.abs(", "Math.floorMod(",
+            "Math.floorDiv(", "Integer.compare(", "Long.compare(", "Arrays.fill(", "Arrays.copyOf(",
+            "Arrays.copyOfRange(", "System.arraycopy(");
+        Matcher used = Pattern.compile("\\b(Integer|Long|Math|Arrays|System|Character|Byte|Short|Boolean|Objects|Double|Float)"
+            + "\\.\\w+\\(?").matcher(code.replaceAll("import .*;", ""));
+        while (used.find()) {
+            CHECKS.due("of the library " + used.group(), listed.contains(used.group()), true);
+        }
     }
 
     private static void methodsAreShort(String code) {
